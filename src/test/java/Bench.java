@@ -1,0 +1,65 @@
+/** A unit with short ways to lay out records and to run programs. */
+final class Bench {
+    static final int SEEK = 0;
+    static final int NUMBER = 1;
+    static final int KEY = 2;
+    static final int HIGHER = 3;
+    static final int BACK = 4;
+    static final int READ_COUNT = 5;
+    static final int READ_KEY = 6;
+    static final int READ_DATA = 7;
+    static final int WRITE_DATA = 8;
+    static final int WRITE_RECORD = 9;
+    static final int ERASE = 10;
+    static final int SKIP = 11;
+
+    final TrackUnit unit = new TrackUnit();
+
+    void bytes(int from, int... values) {
+        for (int i = 0; i < values.length; i++) {
+            unit.poke(from + i, values[i]);
+        }
+    }
+
+    /** Commands as triples of kind, a and b. */
+    int run(int... triples) {
+        unit.command(-1, 0, 0);
+        for (int i = 0; i < triples.length; i += 3) {
+            unit.command(triples[i], triples[i + 1], triples[i + 2]);
+        }
+        return unit.start();
+    }
+
+    /**
+     * Lays records with these pairs of lengths of key and data on a track, from its beginning on; byte
+     * i of record k becomes 10 * k + i. The memory from 180 on is used for it.
+     */
+    void lay(int track, int... lengths) {
+        run(SEEK, track, 0, ERASE, 0, 0);
+        for (int k = 1; k <= lengths.length / 2; k++) {
+            int length = lengths[2 * k - 2] + lengths[2 * k - 1];
+            bytes(180, lengths[2 * k - 2], lengths[2 * k - 1]);
+            for (int i = 0; i < length; i++) {
+                unit.poke(182 + i, 10 * k + i);
+            }
+            if (k == 1) {
+                run(WRITE_RECORD, 180, 0);
+            } else {
+                run(NUMBER, k - 1, 0, BACK, 0, 0, WRITE_RECORD, 180, 0);
+            }
+        }
+    }
+
+    /** Lets the clock go on to this place without reading anything. */
+    void turnTo(int place) {
+        int distance = (int) Math.floorMod(place - unit.clock(), 600L);
+        run(SKIP, 0, distance);
+    }
+
+    /** How many places a program takes; its status must be as given. */
+    long time(Checks checks, String what, int status, int... triples) {
+        long before = unit.clock();
+        checks.due(what + ": status", run(triples), status);
+        return unit.clock() - before;
+    }
+}
