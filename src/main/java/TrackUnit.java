@@ -340,11 +340,10 @@ public final class TrackUnit {
             records = k;
         }
 
-        /** Its bytes are left to be written: the room is the caller's to look at. */
+        /** Key and data are the caller's to write then, as the room was to be looked at before. */
         int append(int keyLength, int dataLength) {
             records++;
             keyLengths[records] = keyLength;
-            spoiled[records] = false;
             begins[records + 1] = begins[records] + COUNT_PLACES + keyLength + dataLength;
             return records;
         }
@@ -356,6 +355,7 @@ public final class TrackUnit {
             }
         }
 
+        /** New data are good, also where a record that is gone was spoiled. */
         void writeData(int k, Bytes memory, int a) {
             writePart(k, DATA, memory, a);
             spoiled[k] = false;
@@ -512,6 +512,7 @@ public final class TrackUnit {
             }
             int place = (int) (time % PLACES);
             record = record == NO_RECORD ? on.firstFrom(place) : on.numberBehind(record);
+            // Even when its count ends right here: a lone record comes again a whole turn later.
             goTo(on.beginOf(record));
             return true;
         }

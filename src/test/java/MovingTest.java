@@ -62,10 +62,10 @@ public final class MovingTest {
             CHECKS.due("time from " + row[0], b.time(CHECKS, "count", 0, Bench.READ_COUNT, 100, 0), row[2]);
             CHECKS.due("number from " + row[0], b.unit.peek(101), row[1]);
         }
-        b.turnTo(25);
-        b.run(Bench.READ_COUNT, 100, 0);
-        b.run(Bench.READ_COUNT, 100, 0);
-        CHECKS.due("not oriented behind the program", b.unit.peek(101), 3);
+        b.turnTo(0);
+        CHECKS.due("a count", b.time(CHECKS, "count", 0, Bench.READ_COUNT, 100, 0), 20);
+        CHECKS.due("not oriented behind the program", b.time(CHECKS, "data", 0, Bench.READ_DATA, 100, 60), 35);
+        CHECKS.due("the next one's data", b.unit.peek(100), 22);
     }
 
     private static void oriented() {
@@ -200,6 +200,7 @@ public final class MovingTest {
 
     private static void backThatCannotBe() {
         Bench b = new Bench();
+        CHECKS.due("the very first", b.time(CHECKS, "back", 2, Bench.BACK, 0, 0), 0);
         b.lay(0, 1, 1, 1, 1, 1, 1);
         CHECKS.due("first", b.time(CHECKS, "back", 2, Bench.BACK, 0, 0), 0);
         CHECKS.due("begun", b.unit.look(2), 0);
