@@ -201,6 +201,7 @@ public final class MovingTest {
     private static void backThatCannotBe() {
         Bench b = new Bench();
         CHECKS.due("the very first", b.time(CHECKS, "back", 2, Bench.BACK, 0, 0), 0);
+        CHECKS.due("begun", b.unit.look(2), 0);
         b.lay(0, 1, 1, 1, 1, 1, 1);
         CHECKS.due("first", b.time(CHECKS, "back", 2, Bench.BACK, 0, 0), 0);
         CHECKS.due("begun", b.unit.look(2), 0);
