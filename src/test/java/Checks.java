@@ -4,15 +4,32 @@ final class Checks {
         long answer();
     }
 
+    interface Doing {
+        void done();
+    }
+
     private int done;
     private int wrong;
+    private String about = "";
+
+    /** Stands before whatever is wrong from now on. */
+    void about(String text) {
+        about = text;
+    }
+
+    int done() {
+        return done;
+    }
 
     void due(String what, long got, long want) {
         done++;
         if (got != want) {
-            wrong++;
-            System.out.println(what + " answered " + got + ", due is " + want);
+            tellWrong(what + " answered " + got + ", due is " + want);
         }
+    }
+
+    void so(String what, boolean isSo) {
+        due(what, isSo ? 1 : 0, 1);
     }
 
     void argument(String what, Call call) {
@@ -21,6 +38,20 @@ final class Checks {
 
     void state(String what, Call call) {
         refused(what, call, IllegalStateException.class);
+    }
+
+    /** For calls that answer nothing. */
+    void argumentOf(String what, Doing call) {
+        argument(what, () -> answerOf(call));
+    }
+
+    void stateOf(String what, Doing call) {
+        state(what, () -> answerOf(call));
+    }
+
+    private static long answerOf(Doing call) {
+        call.done();
+        return 0;
     }
 
     private void refused(String what, Call call, Class<?> due) {
@@ -34,8 +65,12 @@ final class Checks {
             }
             got = "threw " + e.getClass().getSimpleName();
         }
+        tellWrong(what + " " + got + ", due is " + due.getSimpleName());
+    }
+
+    private void tellWrong(String text) {
         wrong++;
-        System.out.println(what + " " + got + ", due is " + due.getSimpleName());
+        System.out.println(about + text);
     }
 
     void finish() {

@@ -12,7 +12,7 @@ public final class DataSetTest {
     }
 
     private static void allTracks() {
-        TrackUnit x = new TrackUnit();
+        CountedUnit x = new CountedUnit();
         CHECKS.due("all 32", x.allocate(5, 32), 1);
         CHECKS.due("free", x.free(), 0);
         for (int j = 0; j < 32; j++) {
@@ -27,8 +27,8 @@ public final class DataSetTest {
     }
 
     /** Six sets of a track each, then every second one is free. */
-    private static TrackUnit combed() {
-        TrackUnit x = new TrackUnit();
+    private static CountedUnit combed() {
+        CountedUnit x = new CountedUnit();
         for (int set = 0; set < 6; set++) {
             CHECKS.due("set " + set, x.allocate(set, 1), 1);
         }
@@ -39,7 +39,7 @@ public final class DataSetTest {
     }
 
     private static void lowestTracks() {
-        TrackUnit x = combed();
+        CountedUnit x = combed();
         CHECKS.due("free", x.free(), 29);
         CHECKS.due("four extents", x.allocate(0, 6), 4);
         int[] due = {0, 2, 4, 6, 7, 8};
@@ -56,7 +56,7 @@ public final class DataSetTest {
     }
 
     private static void refused() {
-        TrackUnit x = combed();
+        CountedUnit x = combed();
         x.scratch(5);
         x.allocate(0, 1);
         x.allocate(2, 3);
@@ -77,7 +77,7 @@ public final class DataSetTest {
     }
 
     private static void tooManyExtents() {
-        TrackUnit x = new TrackUnit();
+        CountedUnit x = new CountedUnit();
         // A hole is left at each of tracks 0, 2, 4, 6 by sets that are laid twice.
         x.allocate(0, 1);
         x.allocate(1, 1);
@@ -129,7 +129,7 @@ public final class DataSetTest {
     }
 
     private static void wrongNumbers() {
-        TrackUnit x = new TrackUnit();
+        CountedUnit x = new CountedUnit();
         x.allocate(1, 3);
         for (int set : new int[] {-1, 6, Integer.MIN_VALUE, Integer.MAX_VALUE}) {
             CHECKS.argument("allocate " + set, () -> x.allocate(set, 1));
@@ -149,7 +149,7 @@ public final class DataSetTest {
         CHECKS.state("scratch again", () -> scratch(x, 1));
     }
 
-    private static long scratch(TrackUnit x, int set) {
+    private static long scratch(CountedUnit x, int set) {
         x.scratch(set);
         return 0;
     }

@@ -38,7 +38,7 @@ public final class KeyedTest {
     }
 
     private static void homes() {
-        TrackUnit x = new TrackUnit();
+        CountedUnit x = new CountedUnit();
         x.allocate(0, 2);
         x.allocate(1, 7);
         int[][] rows = {{0, 0}, {6, 6}, {7, 0}, {12345, 4}, {-1, 3}, {Integer.MIN_VALUE, 2}, {Integer.MAX_VALUE, 1}};
@@ -48,14 +48,14 @@ public final class KeyedTest {
     }
 
     /** Fills the track with records of 84 places: seven of them. */
-    private static void fill(TrackUnit x, int set, int firstKey, int step, int track) {
+    private static void fill(CountedUnit x, int set, int firstKey, int step, int track) {
         for (int i = 0; i < 7; i++) {
             CHECKS.due("fill", x.store(set, firstKey + i * step, 60), track);
         }
     }
 
     private static void overflow() {
-        TrackUnit x = new TrackUnit();
+        CountedUnit x = new CountedUnit();
         x.allocate(0, 6);
         for (int i = 0; i < 4; i++) {
             fill(x, 0, 4 + 42 * i, 6, (4 + i) % 6);
@@ -68,7 +68,7 @@ public final class KeyedTest {
     }
 
     private static void firstThatHasRoom() {
-        TrackUnit x = new TrackUnit();
+        CountedUnit x = new CountedUnit();
         x.allocate(0, 5);
         for (int i = 0; i < 6; i++) {
             x.store(0, 5 * i, 60);
@@ -80,7 +80,7 @@ public final class KeyedTest {
     }
 
     private static void fewTracks() {
-        TrackUnit x = new TrackUnit();
+        CountedUnit x = new CountedUnit();
         x.allocate(0, 1);
         x.allocate(1, 2);
         fill(x, 0, 0, 1, 0);
@@ -94,7 +94,7 @@ public final class KeyedTest {
     }
 
     private static void inPlace() {
-        TrackUnit x = new TrackUnit();
+        CountedUnit x = new CountedUnit();
         x.allocate(0, 3);
         x.poke(0, 1);
         x.store(0, 3, 2);
@@ -112,7 +112,7 @@ public final class KeyedTest {
     }
 
     private static void otherLength() {
-        TrackUnit x = new TrackUnit();
+        CountedUnit x = new CountedUnit();
         x.allocate(0, 3);
         x.store(0, 3, 2);
         x.spoil(0, 1);
@@ -185,7 +185,7 @@ public final class KeyedTest {
     }
 
     private static void refused() {
-        TrackUnit x = new TrackUnit();
+        CountedUnit x = new CountedUnit();
         x.allocate(1, 1);
         for (int set : new int[] {-1, 6, Integer.MIN_VALUE, Integer.MAX_VALUE}) {
             CHECKS.argument("store in " + set, () -> x.store(set, 0, 0));
@@ -203,18 +203,18 @@ public final class KeyedTest {
     }
 
     private static void roomToTheEnd() {
-        TrackUnit x = new TrackUnit();
+        CountedUnit x = new CountedUnit();
         x.allocate(0, 1);
         for (int key = 0; key < 25; key++) {
             CHECKS.due("24 places each", x.store(0, key, 0), 0);
         }
         CHECKS.state("full", () -> x.store(0, 25, 0));
-        TrackUnit y = new TrackUnit();
+        CountedUnit y = new CountedUnit();
         y.allocate(0, 1);
         fill(y, 0, 0, 1, 0);
         // 588 places are taken: 12 are left, and a record takes 24.
         CHECKS.state("no room", () -> y.store(0, 7, 0));
-        TrackUnit z = new TrackUnit();
+        CountedUnit z = new CountedUnit();
         z.allocate(0, 1);
         for (int key = 0; key < 6; key++) {
             z.store(0, key, 60);

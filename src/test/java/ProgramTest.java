@@ -12,7 +12,7 @@ public final class ProgramTest {
     }
 
     private static void newObject() {
-        TrackUnit x = new TrackUnit();
+        CountedUnit x = new CountedUnit();
         CHECKS.due("new clock", x.clock(), 0);
         for (int what = 0; what <= 5; what++) {
             CHECKS.due("new look " + what, x.look(what), 0);
@@ -30,11 +30,11 @@ public final class ProgramTest {
         CHECKS.due("new start", x.start(), 0);
         CHECKS.due("clock behind no program", x.clock(), 0);
         CHECKS.due("first command", x.command(11, 0, 1), 1);
-        CHECKS.due("another object", new TrackUnit().start(), 0);
+        CHECKS.due("another object", new CountedUnit().start(), 0);
     }
 
     private static void commands() {
-        TrackUnit x = new TrackUnit();
+        CountedUnit x = new CountedUnit();
         CHECKS.due("empty an empty program", x.command(-1, 9, 9), 0);
         for (int kind = 0; kind <= 11; kind++) {
             CHECKS.due("kind " + kind, x.command(kind, Integer.MIN_VALUE, Integer.MAX_VALUE), kind + 1);
@@ -57,7 +57,7 @@ public final class ProgramTest {
     }
 
     private static void wrongCommands() {
-        TrackUnit x = new TrackUnit();
+        CountedUnit x = new CountedUnit();
         for (int kind : new int[] {-2, 12, Integer.MIN_VALUE, Integer.MAX_VALUE}) {
             CHECKS.argument("kind " + kind, () -> x.command(kind, 0, 0));
         }
@@ -70,7 +70,7 @@ public final class ProgramTest {
     }
 
     private static void memory() {
-        TrackUnit x = new TrackUnit();
+        CountedUnit x = new CountedUnit();
         for (int i = 0; i < 256; i++) {
             x.poke(i, 255 - i);
         }
@@ -80,7 +80,7 @@ public final class ProgramTest {
     }
 
     private static void memoryEdges() {
-        TrackUnit x = new TrackUnit();
+        CountedUnit x = new CountedUnit();
         x.poke(100, 155);
         x.poke(102, 153);
         int[][] lowest = {{-1, 255}, {256, 0}, {0x1234, 0x34}, {-128, 128}, {Integer.MIN_VALUE + 7, 7}};

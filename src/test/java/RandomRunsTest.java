@@ -11,7 +11,7 @@ public final class RandomRunsTest {
     private static final int[] LENGTHS = {0, 0, 1, 2, 1, 4, 4, 1, 8, 60};
 
     private final Random random;
-    private final TrackUnit unit = new TrackUnit();
+    private final CountedUnit unit = new CountedUnit();
     private final PlainUnit plain = new PlainUnit();
     private final String name;
     /** A small world lets calls meet: few tracks, keys and places of the memory. */

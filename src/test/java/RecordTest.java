@@ -17,7 +17,7 @@ public final class RecordTest {
     }
 
     private static void answers() {
-        TrackUnit x = laid().unit;
+        CountedUnit x = laid().unit;
         int[][] due = {{0, 0, 0}, {20, 8, 60}, {108, 2, 3}};
         for (int k = 1; k <= 3; k++) {
             for (int what = 0; what < 3; what++) {
@@ -32,7 +32,7 @@ public final class RecordTest {
     }
 
     private static void noSuchRecord() {
-        TrackUnit x = laid().unit;
+        CountedUnit x = laid().unit;
         for (int track : new int[] {-1, 32, Integer.MIN_VALUE, Integer.MAX_VALUE}) {
             CHECKS.argument("track " + track, () -> x.record(track, 0, 0));
             CHECKS.argument("byte of track " + track, () -> x.byteOf(track, 1, 0));
@@ -52,7 +52,7 @@ public final class RecordTest {
     }
 
     private static void contents() {
-        TrackUnit x = laid().unit;
+        CountedUnit x = laid().unit;
         for (int i = 0; i < 68; i++) {
             CHECKS.due("byte " + i, x.byteOf(31, 2, i), 20 + i);
         }
@@ -70,7 +70,7 @@ public final class RecordTest {
     }
 
     private static void spoiling() {
-        TrackUnit x = laid().unit;
+        CountedUnit x = laid().unit;
         long before = x.clock();
         x.spoil(31, 2);
         x.spoil(31, 2);
@@ -80,7 +80,7 @@ public final class RecordTest {
         CHECKS.due("no time", x.clock(), before);
     }
 
-    private static long spoil(TrackUnit x, int track, int k) {
+    private static long spoil(CountedUnit x, int track, int k) {
         x.spoil(track, k);
         return 0;
     }

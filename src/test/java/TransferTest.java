@@ -81,6 +81,7 @@ public final class TransferTest {
         CHECKS.due("residual", b.unit.look(1), -6);
         bytesDue("no byte", b, 20, 0);
         b.turnTo(0);
+        b.bytes(249, 0);
         CHECKS.due("data to the memory's end", b.run(Bench.READ_DATA, 250, 6), 0);
         bytesDue("data", b, 249, 0, 14, 15, 16, 17, 18, 19);
         CHECKS.due("residual", b.unit.look(1), 0);
@@ -348,7 +349,7 @@ public final class TransferTest {
     }
 
     private static void wrongLooks() {
-        TrackUnit x = new TrackUnit();
+        CountedUnit x = new CountedUnit();
         for (int what : new int[] {-1, 6, Integer.MIN_VALUE, Integer.MAX_VALUE}) {
             CHECKS.argument("look " + what, () -> x.look(what));
         }
