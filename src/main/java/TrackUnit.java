@@ -512,7 +512,6 @@ public final class TrackUnit {
             }
             int place = (int) (time % PLACES);
             record = record == NO_RECORD ? on.firstFrom(place) : on.numberBehind(record);
-            // Even when its count ends right here: a lone record comes again a whole turn later.
             goTo(on.beginOf(record));
             return true;
         }

@@ -68,7 +68,7 @@ final class Checks {
         tellWrong(what + " " + got + ", due is " + due.getSimpleName());
     }
 
-    private void tellWrong(String text) {
+    void tellWrong(String text) {
         wrong++;
         System.out.println(about + text);
     }

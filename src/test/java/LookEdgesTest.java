@@ -153,6 +153,9 @@ public final class LookEdgesTest {
         CHECKS.due("no record", b.unit.look(1), 3);
         b.run(Bench.SEEK, 0, 0);
         CHECKS.due("none in this run", b.unit.look(1), 0);
+        b.unit.spoil(0, 1);
+        b.runAt(0, Bench.READ_KEY, 100, 5, Bench.READ_DATA, 100, 4);
+        CHECKS.due("of a spoiled record", b.unit.look(1), 4);
     }
 
     private static void begun() {

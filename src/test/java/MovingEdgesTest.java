@@ -8,6 +8,7 @@ public final class MovingEdgesTest {
         sentences.of("Promise 5:", "clock and head go on from where they are", MovingEdgesTest::goesOn);
         sentences.of("Terms", "TRACKS 0 .. 31 are circles of 600 PLACES", MovingEdgesTest::firstAndLastTrack,
             MovingEdgesTest::circle);
+        sentences.of("Terms", "all turning together", MovingEdgesTest::turningTogether);
         sentences.of("Terms", "it ends behind the last one with STATUS 0, or with another status at a command",
             MovingEdgesTest::endOfTheProgram);
         sentences.of("Terms", "not oriented when the program begins, behind a SEEK, and behind the program",
@@ -78,6 +79,19 @@ public final class MovingEdgesTest {
         b.run(Bench.SKIP, 0, 599);
         CHECKS.due("a place before it", b.time(CHECKS, "count", 0, Bench.READ_COUNT, 100, 0), 21);
         CHECKS.due("the second one", b.unit.peek(101), 2);
+    }
+
+    /** A seek over 31 tracks takes 103 places, there as here. */
+    private static void turningTogether() {
+        int[][] placeNumberTime = {{497, 1, 123}, {498, 2, 152}, {526, 2, 124}, {527, 2, 123}, {528, 1, 692}};
+        for (int[] row : placeNumberTime) {
+            Bench b = new Bench();
+            b.lay(31, 0, 10, 0, 10);
+            b.run(Bench.SEEK, 0, 0);
+            CHECKS.due("from " + row[0], b.timeAt(row[0], CHECKS, "seek", 0, Bench.SEEK, 31, 0,
+                Bench.READ_COUNT, 100, 0), row[2]);
+            CHECKS.due("number from " + row[0], b.unit.peek(101), row[1]);
+        }
     }
 
     private static void endOfTheProgram() {

@@ -19,8 +19,6 @@ public final class MovingTest {
         indexSinceSeek();
         indexBehindKey();
         tooMany();
-        fourHundredAndNoMore();
-        fourHundredAndOneMore();
         CHECKS.finish();
     }
 
@@ -305,59 +303,5 @@ public final class MovingTest {
         CHECKS.due("two commands before", b.run(Bench.SKIP, 0, 0, Bench.SKIP, 0, 0, Bench.SEEK, 0, 0,
             Bench.NUMBER, 9, 0, Bench.BACK, 2, 0), 6);
         CHECKS.due("ended at", b.unit.look(0), 4);
-    }
-
-    private static void layThirty(Bench b) {
-        int[] writes = new int[48];
-        for (int i = 0; i < 48; i += 3) {
-            writes[i] = Bench.WRITE_RECORD;
-        }
-        b.run(writes);
-        writes[0] = Bench.NUMBER;
-        writes[1] = 16;
-        writes[3] = Bench.BACK;
-        CHECKS.due("thirty", b.run(writes), 0);
-        CHECKS.due("thirty", b.unit.record(0, 0, 0), 30);
-        CHECKS.due("no room for one more", b.run(Bench.NUMBER, 30, 0, Bench.BACK, 0, 0, Bench.WRITE_RECORD, 0, 0), 5);
-        b.turnTo(0);
-    }
-
-    /** A loop of so many commands, in front of which so many stand, that ends at record number. */
-    private static void addLoop(Bench b, int before, int commands, int number) {
-        for (int i = 0; i < commands - 2; i++) {
-            b.unit.command(Bench.SKIP, 0, 0);
-        }
-        b.unit.command(Bench.NUMBER, number, 0);
-        b.unit.command(Bench.BACK, before, 0);
-    }
-
-    private static void fourHundredAndNoMore() {
-        Bench b = new Bench();
-        layThirty(b);
-        b.unit.command(-1, 0, 0);
-        addLoop(b, 0, 9, 26);
-        addLoop(b, 9, 7, 20);
-        CHECKS.due("26 * 9 - 1 and 24 * 7 - 1 commands", b.unit.start(), 0);
-        CHECKS.due("begun", b.unit.look(2), 400);
-        CHECKS.due("ended at", b.unit.look(0), 16);
-    }
-
-    private static void fourHundredAndOneMore() {
-        Bench b = new Bench();
-        layThirty(b);
-        b.unit.command(-1, 0, 0);
-        addLoop(b, 0, 9, 30);
-        addLoop(b, 9, 6, 22);
-        b.unit.command(Bench.SEEK, 99, 0);
-        CHECKS.due("30 * 9 - 1 and 22 * 6 - 1 commands and one more", b.unit.start(), 6);
-        CHECKS.due("begun", b.unit.look(2), 400);
-        CHECKS.due("ended at", b.unit.look(0), 15);
-        b.turnTo(0);
-        b.unit.command(-1, 0, 0);
-        addLoop(b, 0, 9, 30);
-        addLoop(b, 9, 6, 21);
-        b.unit.command(Bench.SEEK, 99, 0);
-        CHECKS.due("six less", b.unit.start(), 2);
-        CHECKS.due("begun", b.unit.look(2), 394);
     }
 }

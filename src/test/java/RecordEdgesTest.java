@@ -72,6 +72,8 @@ public final class RecordEdgesTest {
             CHECKS.argument("how many on " + track, () -> x.record(track, 0, 0));
             CHECKS.argument("the first on " + track, () -> x.record(track, 1, 0));
         }
+        CHECKS.due("the first one on the first", x.record(0, 1, 0), 0);
+        CHECKS.due("the first one on the last", x.record(31, 1, 1), 1);
     }
 
     private static void noSuchRecord() {

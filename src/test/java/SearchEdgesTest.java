@@ -13,7 +13,7 @@ public final class SearchEdgesTest {
         Sentences sentences = new Sentences(CHECKS);
         sentences.of("Terms", "1 SEARCH NUMBER a", SearchEdgesTest::numbers, SearchEdgesTest::numberOfThirty);
         sentences.of("Terms", "2 SEARCH KEY equal to the b bytes of the memory from a on", SearchEdgesTest::equalKeys,
-            SearchEdgesTest::keysAtTheMemorysEnds);
+            SearchEdgesTest::everyByteCounts, SearchEdgesTest::keysAtTheMemorysEnds);
         sentences.of("Terms", "3 equal or higher", SearchEdgesTest::equalOrHigher);
         sentences.of("Terms", "byte by byte, without a sign", SearchEdgesTest::withoutSign);
         sentences.of("Terms", "a key that is the beginning of a longer one is lower", SearchEdgesTest::beginnings);
@@ -59,11 +59,12 @@ public final class SearchEdgesTest {
         CHECKS.due("none", b.timeAt(0, CHECKS, "search", 1, Bench.NUMBER, 0, 0, Bench.BACK, 0, 0), 1800);
     }
 
-    /** A unit with one record of this key, under the head at place 0. */
+    /** A unit with one record of this key, under the head at place 0; its data are no part of the key. */
     private static Bench withKey(int... key) {
         Bench b = new Bench();
-        b.bytes(100, key.length, 0);
+        b.bytes(100, key.length, 2);
         b.bytes(102, key);
+        b.bytes(102 + key.length, 255, 255);
         b.run(Bench.WRITE_RECORD, 100, 0);
         return b;
     }
@@ -71,6 +72,8 @@ public final class SearchEdgesTest {
     private static void searchDue(Bench b, boolean equal, boolean orHigher, int... key) {
         String what = Arrays.toString(key);
         b.bytes(0, key);
+        // What stands behind the b bytes is no part of what is searched.
+        b.bytes(key.length, 255, 255);
         CHECKS.due("equal to " + what, isFoundAt(b, 0, Bench.KEY, 0, key.length) ? 1 : 0, equal ? 1 : 0);
         CHECKS.due("or higher than " + what, isFoundAt(b, 0, Bench.HIGHER, 0, key.length) ? 1 : 0, orHigher ? 1 : 0);
     }
@@ -88,6 +91,19 @@ public final class SearchEdgesTest {
             Bench b = withKey(row(length));
             for (int searched = 0; searched <= 8; searched++) {
                 searchDue(b, searched == length, searched <= length, row(searched));
+            }
+        }
+    }
+
+    private static void everyByteCounts() {
+        for (int length = 1; length <= 8; length++) {
+            Bench b = withKey(row(length));
+            for (int i = 0; i < length; i++) {
+                int[] key = row(length);
+                key[i]--;
+                searchDue(b, false, true, key);
+                key[i] += 2;
+                searchDue(b, false, false, key);
             }
         }
     }
@@ -247,6 +263,8 @@ public final class SearchEdgesTest {
         b.lay(0, 0, 0, 0, 0);
         CHECKS.due("a search of the run before", b.runAt(0, Bench.NUMBER, 2, 0), 0);
         CHECKS.due("is not of this one", b.run(Bench.BACK, 0, 0), 2);
+        CHECKS.due("behind the search, but then behind itself", b.runAt(0, Bench.NUMBER, 2, 0, Bench.BACK, 1, 0), 2);
+        CHECKS.due("begun", b.unit.look(2), 2);
         CHECKS.due("one in between", b.runAt(0, Bench.NUMBER, 2, 0, Bench.SKIP, 0, 0, Bench.BACK, 0, 0), 2);
         CHECKS.due("ended at", b.unit.look(0), 2);
         CHECKS.due("one passed over in between", b.runAt(0, Bench.NUMBER, 1, 0, Bench.SKIP, 0, 0,

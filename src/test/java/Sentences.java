@@ -21,9 +21,19 @@ final class Sentences {
         checks.so("the document says so", part(heading).contains(sentence));
         int before = checks.done();
         for (Runnable test : tests) {
-            test.run();
+            run(test);
         }
         checks.so("something is looked at", checks.done() > before);
+    }
+
+    /** What one sentence's test throws must not keep the next ones from being run. */
+    private void run(Runnable test) {
+        try {
+            test.run();
+        } catch (RuntimeException e) {
+            checks.tellWrong("a call threw " + e);
+            e.printStackTrace(System.out);
+        }
     }
 
     void finish() {
